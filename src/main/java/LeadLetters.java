@@ -578,7 +578,7 @@ public final class LeadLetters {
         }
 
         void shorten() {
-            size = Math.max(0, size - 1);
+            size = size > 0 ? size - 1 : 0;
         }
 
         void clear() {
@@ -928,7 +928,7 @@ public final class LeadLetters {
         }
 
         private void putForm(int letters, int width, int ugly) {
-            int form = formOf(letters);
+            int form = formLetters.indexOf(letters);
             if (form < 0) {
                 form = formLetters.number(letters);
             }
@@ -937,7 +937,7 @@ public final class LeadLetters {
         }
 
         private void barForm(int letters) {
-            int form = formOf(letters);
+            int form = formLetters.indexOf(letters);
             if (form < 0) {
                 return;
             }
@@ -1036,6 +1036,7 @@ public final class LeadLetters {
         private final Row begins;
         private final Row needs;
         private final Row alone;
+        private boolean atBlank;
         private int ugly;
         private int lines;
         private int forms;
@@ -1106,27 +1107,27 @@ public final class LeadLetters {
             choiceSizes.clear();
             choiceWidths.clear();
             choiceUglies.clear();
-            if (isBlank(at)) {
+            atBlank = isBlank(at);
+            if (atBlank) {
                 for (int blank = customs.least; blank <= customs.most; blank++) {
                     addChoice(1, blank, customs.wide * (blank - customs.least));
                 }
                 return;
             }
-            addForm(3, threes.at(at));
-            addForm(2, twos.at(at));
+            int three = threes.at(at);
+            int two = twos.at(at);
+            addChoice(3, customs.formWidths.at(three), customs.formUglies.at(three));
+            addChoice(2, customs.formWidths.at(two), customs.formUglies.at(two));
             addChoice(1, widths.at(letters.at(at)), 0);
         }
 
-        private void addForm(int size, int form) {
-            if (form >= 0) {
-                addChoice(size, customs.formWidths.at(form), customs.formUglies.at(form));
-            }
-        }
-
+        /** A form that does not stand there has no width, as it has no number. */
         private void addChoice(int size, int width, int ugly) {
-            choiceSizes.push(size);
-            choiceWidths.push(width);
-            choiceUglies.push(ugly);
+            if (width > 0) {
+                choiceSizes.push(size);
+                choiceWidths.push(width);
+                choiceUglies.push(ugly);
+            }
         }
 
         private int leastUgly(int at, int width, int pieces) {
@@ -1143,20 +1144,20 @@ public final class LeadLetters {
                 return NEVER;
             }
             int next = at + choiceSizes.at(choice);
-            return choiceUglies.at(choice) + rest.at(index(next, wider, piecesBehind(at, pieces)));
+            return choiceUglies.at(choice) + rest.at(index(next, wider, piecesBehind(pieces)));
         }
 
         /** That a letter stands at the place shows that the piece ahead of it isn't its word's last. */
         private int uglyByEnd(int at, int width, int pieces) {
-            if (isBlank(at)) {
+            if (atBlank) {
                 return width == customs.column ? rest.at(index(at + 1, 0, 0)) : NEVER;
             }
             boolean canBreak = pieces == 2 && width + widths.at(BREAK) == customs.column;
             return canBreak ? customs.broken + rest.at(index(at, 0, 0)) : NEVER;
         }
 
-        private int piecesBehind(int at, int pieces) {
-            return isBlank(at) ? 0 : Math.min(pieces + 1, 2);
+        private int piecesBehind(int pieces) {
+            return atBlank ? 0 : Math.min(pieces + 1, 2);
         }
 
         private static int index(int at, int width, int pieces) {
@@ -1177,7 +1178,7 @@ public final class LeadLetters {
                     pieces = 0;
                 } else {
                     width += choiceWidths.at(choice);
-                    pieces = piecesBehind(at, pieces);
+                    pieces = piecesBehind(pieces);
                     at = setPiece(at, choiceSizes.at(choice));
                 }
             }
@@ -1205,7 +1206,7 @@ public final class LeadLetters {
         /** Where the next line begins. */
         private int endLine(int at) {
             int next = at + 1;
-            if (!isBlank(at)) {
+            if (!atBlank) {
                 needs.add(BREAK, 1);
                 next = at;
             }
@@ -1218,7 +1219,7 @@ public final class LeadLetters {
         private int setPiece(int at, int size) {
             if (size > 1) {
                 forms++;
-            } else if (!isBlank(at)) {
+            } else if (!atBlank) {
                 needs.add(letters.at(at), 1);
                 alone.put(at, 1);
             }
@@ -1613,7 +1614,6 @@ public final class LeadLetters {
         /** The hand of the set's least page is tried first, so that no two of the ways are the same sets. */
         private void explain(int set, int least, int others) {
             fewest.put(set, HANDS + 1);
-            ways.put(set, 0);
             for (int more = others; more > 0; more = (more - 1) & others) {
                 tryHand(set, least | more);
             }
