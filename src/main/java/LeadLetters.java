@@ -370,12 +370,15 @@ public final class LeadLetters {
     }
 
     public int runs(int n, int what) {
-        // No i is in a row of n places from i = n on, whatever n is: that is told ahead of a bad n.
-        if (what < 0 || (what > 1 && what < FIRST_PLACE) || (what > 1 && what - FIRST_PLACE >= n)) {
+        // What no row of any n has is told ahead of a bad n; how long the row is, only a good n tells.
+        if (what < 0 || (what > 1 && what < FIRST_PLACE) || what >= FIRST_PLACE + Evidence.PRINTED) {
             return NONE;
         }
         if (n < 1 || n > Evidence.PRINTED) {
             return BAD;
+        }
+        if (what - FIRST_PLACE >= n) {
+            return NONE;
         }
         int runs = evidence.countRuns(n);
         if (what == 0) {
@@ -727,8 +730,11 @@ public final class LeadLetters {
             }
         }
 
+        /** No DAY modulo 30 is 30 or more: such a feast is a CLAUSE, but makes no FEAST. */
         private boolean addFeast(int slot, int n) {
-            feasts.put(slot, feasts.at(slot) | 1 << Math.floorMod(n, MONTH));
+            if (n >= 0 && n < MONTH) {
+                feasts.put(slot, feasts.at(slot) | 1 << n);
+            }
             return true;
         }
 

@@ -166,7 +166,7 @@ final class Model {
                     switch (c.word) {
                         case "form" -> forms.put(c.letters, new Form(c.letters, c.n, c.u));
                         case "bar" -> forms.remove(c.letters);
-                        case "feast" -> feasts.add(c.n % 30);
+                        case "feast" -> feasts.add(c.n);
                         default -> words.put(c.word, c.n);
                     }
                 }
@@ -607,8 +607,9 @@ final class Model {
     }
 
     int runs(int n, int what) {
-        if (!(what == 0 || what == 1 || what >= 10 && what - 10 < n)) return NONE;
+        if (!in(0, what, 1) && !in(10, what, 19)) return NONE;
         if (!in(1, n, 10)) return BAD;
+        if (what - 10 >= n) return NONE;
         found = 0;
         begins = 0;
         last = null;

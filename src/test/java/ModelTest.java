@@ -85,6 +85,11 @@ public final class ModelTest {
         return least + random.nextInt(most - least + 1);
     }
 
+    private int bad(int least, int most) {
+        int n = random.nextBoolean() ? from(least - 1, most + 1) : random.nextInt();
+        return n < least || n > most ? n : random.nextBoolean() ? least - 1 : most + 1;
+    }
+
     private void tape(String signs) throws Exception {
         for (int i = 0; i < signs.length(); i += 8) {
             String part = signs.substring(i, Math.min(signs.length(), i + 8));
@@ -109,7 +114,7 @@ public final class ModelTest {
             case 7: return "most " + (random.nextInt(3) == 0 ? upTo(99) : 2 + upTo(4));
             case 8: return "break " + upTo(9);
             case 9: return "wide " + upTo(upTo(9));
-            default: return "feast " + upTo(99);
+            default: return "feast " + (random.nextInt(3) == 0 ? upTo(99) : upTo(31));
         }
     }
 
@@ -258,7 +263,10 @@ public final class ModelTest {
                 else call("ahead", from(0, 9), from(0, 9));
             }
             case 8 -> call("runs", from(1, 7), from(0, 1));
-            default -> call("runs", from(1, 7), from(10, 16));
+            default -> {
+                call("runs", from(1, 7), from(10, 16));
+                call("runs", bad(1, 10), random.nextBoolean() ? from(10, 20) : random.nextInt());
+            }
         }
     }
 
