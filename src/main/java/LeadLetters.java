@@ -588,12 +588,12 @@ public final class LeadLetters {
             size = 0;
         }
 
-        void takeAll(Row other) {
-            if (other == null || other.cells.length != cells.length) {
+        static void copy(Row from, Row to) {
+            if (from == null || to == null || from.cells.length != to.cells.length) {
                 return;
             }
-            System.arraycopy(other.cells, 0, cells, 0, cells.length);
-            size = other.size;
+            System.arraycopy(from.cells, 0, to.cells, 0, from.cells.length);
+            to.size = from.size;
         }
     }
 
@@ -616,13 +616,13 @@ public final class LeadLetters {
 
         void keep() {
             for (int i = 0; i < rows.size() && i < copies.size(); i++) {
-                copies.get(i).takeAll(rows.get(i));
+                Row.copy(rows.get(i), copies.get(i));
             }
         }
 
         void bringBack() {
             for (int i = 0; i < rows.size() && i < copies.size(); i++) {
-                rows.get(i).takeAll(copies.get(i));
+                Row.copy(copies.get(i), rows.get(i));
             }
         }
     }
@@ -1520,6 +1520,7 @@ public final class LeadLetters {
     private static final class Evidence {
         private static final int STATES = 7;
         private static final int HANDS = 10;
+        private static final int FIGURES = 4;
         private static final int PRINTED = 10;
         private static final int RULES = 30;
         private static final int SETS = 1024;
@@ -1609,10 +1610,12 @@ public final class LeadLetters {
 
         private static int distance(int a, int b) {
             int sum = 0;
-            int figure = 1;
-            for (int i = 0; i < 4; i++) {
-                sum += Math.abs(a / figure % 10 - b / figure % 10);
-                figure *= 10;
+            int restOfA = a;
+            int restOfB = b;
+            for (int i = 0; i < FIGURES; i++) {
+                sum += Math.abs(restOfA % 10 - restOfB % 10);
+                restOfA /= 10;
+                restOfB /= 10;
             }
             return sum;
         }
