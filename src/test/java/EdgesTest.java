@@ -7,13 +7,15 @@ import java.util.HashSet;
 import java.util.List;
 import java.util.Map;
 import java.util.Set;
+import java.util.TreeMap;
 import java.util.regex.Pattern;
 import java.util.stream.Stream;
 
 /**
- * The boundary cases, from the files of src/test/edges, one a promise. "promise 3" names the promise, "says .." the sentence
- * of the document that the class is held against (word for word, of this promise or of the Terms), "case .." the edge: the
- * rows behind it are one test on a new object. A row without a due answer leads there and may not be refused.
+ * The boundary cases, from the files of src/test/edges, one a promise and one for the order of refusals. "promise 3" names
+ * the promise, "says .." the sentence of the document that the class is held against (word for word, of this promise or of
+ * the Terms; one of the Terms goes on holding behind another "promise"), "case .." the edge: the rows behind it are one test
+ * on a new object. A row without a due answer leads there and may not be refused.
  * Each row is asked of LeadLetters and of the Model; behind each refused call nothing may be changed. No sentence of the
  * document may be without a test, and no refusal that a promise names.
  */
@@ -29,6 +31,7 @@ public final class EdgesTest {
     private final Document document = new Document();
     private final Set<String> held = new HashSet<>();
     private final Set<String> refused = new HashSet<>();
+    private final Map<Integer, Integer> cases = new TreeMap<>();
     private final List<Rows.Call> rows = new ArrayList<>();
     private int promise = 0;
     private String sentence = "";
@@ -42,6 +45,9 @@ public final class EdgesTest {
             for (Path file : files.sorted().toList()) test.read(file);
         }
         test.allIsHeld();
+        for (int p : test.document.calls.keySet()) {
+            System.out.println("promise " + p + " (" + test.document.calls.get(p) + "): " + test.cases.getOrDefault(p, 0) + " boundary cases");
+        }
         System.out.println("EdgesTest: " + tests + " boundary cases, " + wrong + " wrong");
         if (wrong > 0) System.exit(1);
     }
@@ -56,7 +62,7 @@ public final class EdgesTest {
             if (line.startsWith("promise ")) {
                 runCase();
                 promise = Integer.parseInt(line.substring(8));
-                sentence = "";
+                sentence = document.terms.contains(sentence) ? sentence : "";
             } else if (line.startsWith("says ")) {
                 runCase();
                 takeSentence(line.substring(5));
@@ -69,6 +75,7 @@ public final class EdgesTest {
         }
         runCase();
         promise = 0;
+        sentence = "";
     }
 
     private void takeSentence(String words) {
@@ -85,6 +92,7 @@ public final class EdgesTest {
     private void runCase() {
         if (rows.isEmpty() && edge.isEmpty()) return;
         tests++;
+        cases.merge(promise, 1, Integer::sum);
         if (promise == 0 || sentence.isEmpty() || edge.isEmpty()) say(name() + ": no promise, sentence or edge");
         if (rows.size() > CALLS) say(name() + ": more than " + CALLS + " calls");
         if (rows.stream().allMatch(call -> call.due() == null)) say(name() + ": no answer is due");
